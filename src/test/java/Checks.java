@@ -2,12 +2,32 @@
 final class Checks {
     private int wrong = 0;
     private int made = 0;
+    private String boundary = "";
+
+    /** A boundary case in a test of its own: it has to ask for an answer, and no call may throw. */
+    void test(String named, Runnable test) {
+        int before = made;
+        boundary = named + ": ";
+        try {
+            test.run();
+        } catch (RuntimeException thrown) {
+            tellWrong("threw " + thrown);
+        }
+        if (made == before) {
+            tellWrong("asked for no answer");
+        }
+        boundary = "";
+    }
+
+    private void tellWrong(String what) {
+        wrong++;
+        System.out.println(boundary + what);
+    }
 
     void due(String call, long got, long want) {
         made++;
         if (got != want) {
-            wrong++;
-            System.out.println(call + " answered " + got + ", due is " + want);
+            tellWrong(call + " answered " + got + ", due is " + want);
         }
     }
 
@@ -18,8 +38,7 @@ final class Checks {
     void due(String call, String got, String want) {
         made++;
         if (!got.equals(want)) {
-            wrong++;
-            System.out.println(call + " answered [" + got + "], due is [" + want + "]");
+            tellWrong(call + " answered [" + got + "], due is [" + want + "]");
         }
     }
 
@@ -45,8 +64,11 @@ final class Checks {
 
     static String text(CarDrawer x) {
         StringBuilder text = new StringBuilder();
-        for (int i = 0; i < 2000 && x.letter(i) != -1; i++) {
-            text.append((char) x.letter(i));
+        // One call a letter: an object is good for 512 calls.
+        int letter = x.letter(0);
+        for (int i = 1; i < 400 && letter != -1; i++) {
+            text.append((char) letter);
+            letter = x.letter(i);
         }
         return text.toString();
     }
@@ -63,8 +85,10 @@ final class Checks {
 
     static String left(CarDrawer x) {
         StringBuilder left = new StringBuilder();
-        for (int i = 0; i < 100 && x.left(i) != -1; i++) {
-            left.append(x.left(i)).append(',');
+        int number = x.left(0);
+        for (int i = 1; i < 100 && number != -1; i++) {
+            left.append(number).append(',');
+            number = x.left(i);
         }
         return left.toString();
     }

@@ -3,7 +3,8 @@ import java.util.Random;
 /** Runs of 512 calls, of all promises mixed, against the model. */
 final class ModelTest {
     private static final Checks CHECKS = new Checks();
-    private static final int[] EDGES = {Integer.MIN_VALUE, -2, -1, 0, 1, 2, 3, 4, 5, 6, 20, 21, 40, 63, 64, Integer.MAX_VALUE};
+    private static final int[] EDGES = {
+        Integer.MIN_VALUE, -2, -1, 0, 1, 2, 3, 4, 5, 6, 20, 21, 40, 63, 64, Integer.MAX_VALUE};
 
     public static void main(String[] args) {
         Random random = new Random(20261115);

@@ -46,11 +46,9 @@ final class PlantedTest {
     private static void everySecondOne() {
         int[] faults = {3, 2, 4, 3, 5, 2};
         for (int kind = 0; kind < 6; kind++) {
-            CarDrawer x = new CarDrawer(kind);
             int[] times = new int[6];
             for (int i = 0; i < 500; i++) {
-                x.draw(kind, 1);
-                times[x.planted(0)]++;
+                times[Checks.drawn(i, kind, 1).planted(0)]++;
             }
             CHECKS.due("about half have none, kind " + kind, times[0] > 180 && times[0] < 320, true);
             for (int fault = 1; fault <= 5; fault++) {
