@@ -24,9 +24,9 @@ public final class CarDrawer {
 
     private final long seed;
     private final Draws draws;
+    private final Rest rest;
     private final Drawing drawing;
     private final Verdict saying;
-    private final Rest rest;
     // Held for same() alone, so that its calls make no rows of their own.
     private final Draws trialDraws;
     private final Drawing mine;
@@ -35,9 +35,9 @@ public final class CarDrawer {
     public CarDrawer(long seed) {
         this.seed = seed;
         draws = new Draws(seed);
-        drawing = new Drawing();
-        saying = new Verdict();
-        rest = new Rest(drawing, saying);
+        rest = new Rest();
+        drawing = rest.drawing;
+        saying = rest.saying;
         trialDraws = new Draws(seed);
         mine = new Drawing();
         theirs = new Drawing();
@@ -300,15 +300,11 @@ public final class CarDrawer {
 
     /** What is LEFT of a DRAWING: the numbers of its PARTS, in order. */
     private static final class Rest {
-        private final Drawing drawing;
-        private final Verdict saying;
+        // Made here, so that CarDrawer's constructor hands out nothing before it has ended.
+        private final Drawing drawing = new Drawing();
+        private final Verdict saying = new Verdict();
         private final int[] numbers = new int[MOST_PARTS];
         private int count = 0;
-
-        Rest(Drawing drawing, Verdict saying) {
-            this.drawing = drawing;
-            this.saying = saying;
-        }
 
         void takeAll() {
             count = drawing.count;

@@ -25,7 +25,11 @@ final class FaceTest {
                 "public boolean CarDrawer.same(long,int,int)"));
         CHECKS.due("the face", face().toString(), due.toString());
         CHECKS.due("public final", Modifier.toString(CarDrawer.class.getModifiers()), "public final");
+        CHECKS.due("it extends", CarDrawer.class.getSuperclass().getName(), "java.lang.Object");
+        CHECKS.due("interfaces", CarDrawer.class.getInterfaces().length, 0);
         fields();
+        classesInside();
+        privateNames();
         CHECKS.end();
     }
 
@@ -48,8 +52,25 @@ final class FaceTest {
             boolean changes = Modifier.isStatic(field.getModifiers()) && !Modifier.isFinal(field.getModifiers());
             CHECKS.due(field + " is static and changes", changes, false);
         }
+    }
+
+    private static void classesInside() {
         for (Class<?> inside : CarDrawer.class.getDeclaredClasses()) {
-            CHECKS.due(inside + " is static", Modifier.isStatic(inside.getModifiers()), true);
+            int modifiers = inside.getModifiers();
+            CHECKS.due(inside + " is static", Modifier.isStatic(modifiers), true);
+            CHECKS.due(inside + " is seen outside", Modifier.isPublic(modifiers) || Modifier.isProtected(modifiers), false);
+        }
+    }
+
+    private static void privateNames() {
+        Set<String> shown = new TreeSet<>();
+        for (Method method : CarDrawer.class.getMethods()) {
+            shown.add(method.getName());
+        }
+        for (Method method : CarDrawer.class.getDeclaredMethods()) {
+            if (Modifier.isPrivate(method.getModifiers())) {
+                CHECKS.due(method + " bears a public name", shown.contains(method.getName()), false);
+            }
         }
     }
 }

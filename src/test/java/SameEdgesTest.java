@@ -18,6 +18,7 @@ final class SameEdgesTest {
         CHECKS.test("the same but for a y", SameEdgesTest::otherY);
         CHECKS.test("the same but for a z", SameEdgesTest::otherZ);
         CHECKS.test("the same parts with another fault", SameEdgesTest::otherFault);
+        CHECKS.test("the same parts and fault, but in another part", SameEdgesTest::otherFaultPart);
         CHECKS.test("the same but for one part more", SameEdgesTest::onePartMore);
         CHECKS.test("the same but for the last part", SameEdgesTest::otherLastPart);
         CHECKS.test("the same before the fault", SameEdgesTest::beforeTheFault);
@@ -118,6 +119,18 @@ final class SameEdgesTest {
         same(48, 172210911, 4, 1, false);
         same(48, 227, 4, 1, true);
         same(172210911, 222806896, 4, 1, true);
+    }
+
+    /** Two PACKAGE PARTS of 0, 0, 0: one by the FAULT 5, the other drawn so. PARTS and FAULT are the same. */
+    private static void otherFaultPart() {
+        long[] seeds = {2739140745L, 594426610L};
+        for (int i = 0; i < 2; i++) {
+            CarDrawer x = Checks.drawn(seeds[i], 4, 1);
+            CHECKS.due("parts", Checks.parts(x), "2 0 0 0,2 0 0 0,");
+            CHECKS.due("planted(0)", x.planted(0), 5);
+            CHECKS.due("planted(1)", x.planted(1), i);
+        }
+        same(seeds[0], seeds[1], 4, 1, true);
     }
 
     private static void onePartMore() {

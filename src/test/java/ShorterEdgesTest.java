@@ -17,6 +17,9 @@ final class ShorterEdgesTest {
         CHECKS.test("the first part and the last of 40", ShorterEdgesTest::firstAndLastOfForty);
         CHECKS.test("40 parts by 20, 10, 5, 2 and 1", ShorterEdgesTest::forty);
         CHECKS.test("wider rows once, single ones until none is left out", ShorterEdgesTest::singlesAgain);
+        CHECKS.test("seven rounds with single parts", ShorterEdgesTest::sevenRounds);
+        CHECKS.test("neighbours of those left, not of all", ShorterEdgesTest::neighboursLeft);
+        CHECKS.test("w itself is halved, not what is left by then", ShorterEdgesTest::halvedAgain);
         CHECKS.test("when it is as short as can be", ShorterEdgesTest::onceMore);
         CHECKS.test("halves of what is left, not of all", ShorterEdgesTest::fromWhatIsLeft);
         CHECKS.end();
@@ -138,6 +141,30 @@ final class ShorterEdgesTest {
         shorter(39, 3, 2, 0x4419a0022280d480L, "1,");
         shorter(28, 5, 3, 0xfe3cd3e544f99957L, "2,");
         shorter(81, 2, 4, 0xe6ad30092c8133e2L, "0,5,");
+    }
+
+    /** No drawing and verdict with more rounds than these could be found; the last leaves out none. */
+    private static void sevenRounds() {
+        shorter(199, 2, 7, 0xa245020739321b7dL, "2,");
+        shorter(64, 5, 17, 0x41813c9aff5203c3L, "10,");
+        // Six rounds, and five.
+        shorter(21, 5, 14, 0x40010484c0680a12L, "19,");
+        shorter(4, 0, 16, 0x20a006a548649d29L, "17,");
+    }
+
+    /** Where PARTS between were left out, a row has PARTS whose numbers are further apart than w. */
+    private static void neighboursLeft() {
+        shorter(113, 0, 12, 0xbf7f86bd354f6fa3L, "3,14,");
+        shorter(175, 4, 17, 0xbdfe9cf6b7fffde5L, "19,");
+        shorter(63, 4, 19, 0x40300011742a040L, "7,8,27,31,34,");
+        shorter(192, 4, 20, 0x6584c1489c241480L, "0,1,2,25,26,");
+    }
+
+    /** Three are LEFT behind w = 4 or 5: it goes on with 2, not with half of three. */
+    private static void halvedAgain() {
+        shorter(55, 1, 18, 0x2d00084263849476L, "18,");
+        shorter(8, 3, 19, 0xd821815b045b3eb5L, "22,");
+        shorter(105, 2, 20, 0xd3c918e18912b5L, "35,");
     }
 
     private static void onceMore() {

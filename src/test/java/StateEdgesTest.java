@@ -17,6 +17,7 @@ final class StateEdgesTest {
         CHECKS.test("the shift leaves the 33 lowest bits behind", StateEdgesTest::shiftBy33);
         CHECKS.test("a draw below 1 answers 0 and moves the state", StateEdgesTest::belowOne);
         CHECKS.test("the state goes on from drawing to drawing", StateEdgesTest::goesOn);
+        CHECKS.test("without a fault, no part is drawn for it", StateEdgesTest::goesOnWithoutFault);
         CHECKS.test("seeds that differ in the highest bit alone", StateEdgesTest::highestBit);
         CHECKS.end();
     }
@@ -122,6 +123,23 @@ final class StateEdgesTest {
         CHECKS.due("the first", Checks.parts(x), "1 0 38 34,3 0 38 902,1 1 59 802,0 0 -59 812,");
         x.draw(0, 2);
         CHECKS.due("the second", Checks.parts(x), "1 0 -14 926,2 1 48 4,0 0 32 607,");
+    }
+
+    /** The DRAWING that comes behind one without a FAULT. */
+    private static void goesOnWithoutFault() {
+        next(4, 0, "0 0 34 575,2 0 13 16,2 2 11 800,");
+        next(4, 1, "1 16 23 290,1 40 16 846,");
+        next(2, 2, "4 11 45 86,0 20 38 164,");
+        next(3, 3, "2 0 62 51,0 1 27 683,1 1 38 989,");
+        next(2, 4, "2 234 45 86,3 168 38 164,");
+        next(4, 5, "3 35 23 290,5 21 16 846,");
+    }
+
+    private static void next(long seed, int kind, String parts) {
+        CarDrawer x = Checks.drawn(seed, kind, 2);
+        CHECKS.due("planted(0) of the first of kind " + kind, x.planted(0), 0);
+        x.draw(kind, 2);
+        CHECKS.due("the second of kind " + kind, Checks.parts(x), parts);
     }
 
     /** Their STATES differ in that bit for ever; what is drawn below a power of two is the same. */
